@@ -1,8 +1,5 @@
 /** Promises 1 to 7: a new object, feed, bridge, fault, told, matter, traveller. */
 public final class BridgeTest {
-    /** A ring 0 -> 1 -> 2 -> 0, and one traveller of each kind. */
-    private static final String RING = "k10 2;m30 2;m20 4;m45 1;t0 3 7;t1 0 1;t2 2 6;t3 9 6;t4 0 7;";
-
     public static void main(String[] args) {
         newObject();
         feeding();
@@ -66,7 +63,7 @@ public final class BridgeTest {
 
     private static void bridges() {
         TollDelay x = new TollDelay();
-        Check.due("ring", Check.tellBridge(x, RING), 5);
+        Check.due("ring", Check.tellBridge(x, Check.RING), 5);
         String fresh = Check.seen(x);
         x.seed(77);
         x.seat(0);
@@ -76,7 +73,10 @@ public final class BridgeTest {
         x.keep(1);
         x.minute(5);
         x.anew();
-        Check.due("ring again", Check.tellBridge(x, RING), 5);
+        x.seat(1);
+        x.tell(0);
+        Check.due("paid ahead of the new bridge", x.rise(), 6);
+        Check.due("ring again", Check.tellBridge(x, Check.RING), 5);
         Check.same("ring again", Check.seen(x), fresh);
         Check.due("images are gone", x.goBack(1), Check.NOT);
         Check.due("nothing to undo", x.undo(1), Check.NOT);
@@ -175,7 +175,7 @@ public final class BridgeTest {
     }
 
     private static void faultLeavesAll() {
-        TollDelay x = Check.built(RING);
+        TollDelay x = Check.built(Check.RING);
         x.seed(9);
         x.keep(1);
         x.seat(1);
@@ -194,7 +194,7 @@ public final class BridgeTest {
     }
 
     private static void tolds() {
-        TollDelay x = Check.built(RING);
+        TollDelay x = Check.built(Check.RING);
         int[] fresh = {10, 2, 3, 5, 0, 0, 0, 0, 1, -1, 0, -1, 31, 0, 0, 0, -1, 2, 0, 0, 0};
         for (int what = 0; what < fresh.length; what++) {
             Check.due("ring told(" + what + ")", x.told(what), fresh[what]);
@@ -236,6 +236,10 @@ public final class BridgeTest {
         alike.seat(1);
         alike.tell(0);
         Check.due("of like ones the least sat longest", alike.told(16), 1);
+        TollDelay one = Check.built("k1 1;m9 0;t4 0 1;t0 9 1;");
+        one.seat(1);
+        one.tell(0);
+        Check.due("one minute is long enough", one.told(16), 1);
     }
 
     private static void toldLearn() {
@@ -276,7 +280,7 @@ public final class BridgeTest {
     }
 
     private static void travellers() {
-        TollDelay x = Check.built(RING);
+        TollDelay x = Check.built(Check.RING);
         int[][] due = {{0, 3, 7, 0, 0, 45, 2}, {1, 0, 1, 0, 0, 60, 0}, {2, 2, 6, 0, 0, 50, 2}, {3, 9, 6, 0, 0, 15, 2}, {4, 0, 7, 0, 0, 60, -1}};
         for (int t = 0; t < due.length; t++) {
             for (int what = 0; what <= 6; what++) {
@@ -301,6 +305,8 @@ public final class BridgeTest {
         TollDelay like = Check.built("k1 1;m4 0;m9 0;m9 0;t1 0 7;t2 9 7;");
         Check.due("of like favourites the least", like.traveller(0, 6), 1);
         Check.due("no favourite", like.traveller(1, 6), Check.NONE);
+        TollDelay one = Check.built("k1 1;m9 0;m9 0;t0 9 2;");
+        Check.due("a favourite of one minute", one.traveller(0, 6), 1);
         for (int wild : Check.WILD) {
             Check.due("traveller(" + wild + ", 0)", x.traveller(wild, 0), Check.UNKNOWN);
             Check.due("traveller(0, " + wild + ")", x.traveller(0, wild), Check.OUTSIDE);

@@ -1,6 +1,8 @@
 /** What the tests share: bridges made of texts, and the count of answers that are not as due. */
 final class Check {
     static final int NONE = -1, UNKNOWN = -1000000001, OUTSIDE = -1000000002, NOT = -1000000003, FULL = -1000000004;
+    /** A ring 0 -> 1 -> 2 -> 0, and one traveller of each kind. */
+    static final String RING = "k10 2;m30 2;m20 4;m45 1;t0 3 7;t1 0 1;t2 2 6;t3 9 6;t4 0 7;";
     /** Numbers that no traveller, matter or image has, and that no bound allows. */
     static final int[] WILD = {-1, -2, Integer.MIN_VALUE, Integer.MAX_VALUE, 1000000};
 

@@ -1,8 +1,5 @@
 /** Promises 8 to 15: seat, tell, rise, learn, minute, anew, drift, undo. */
 public final class DeedsTest {
-    /** A ring 0 -> 1 -> 2 -> 0, and one traveller of each kind. */
-    private static final String RING = "k10 2;m30 2;m20 4;m45 1;t0 3 7;t1 0 1;t2 2 6;t3 9 6;t4 0 7;";
-
     public static void main(String[] args) {
         seats();
         tells();
@@ -17,11 +14,12 @@ public final class DeedsTest {
         undone();
         undoneAtMost();
         refusedChangesNothing();
+        farOn();
         Check.end("DeedsTest");
     }
 
     private static void seats() {
-        TollDelay x = Check.built(RING);
+        TollDelay x = Check.built(Check.RING);
         x.minute(7);
         Check.due("seat", x.seat(2), 7);
         Check.due("he sits", x.told(9), 2);
@@ -43,7 +41,7 @@ public final class DeedsTest {
     }
 
     private static void tells() {
-        TollDelay x = Check.built(RING);
+        TollDelay x = Check.built(Check.RING);
         Check.due("tell nobody", x.tell(0), Check.NOT);
         x.seat(0);
         Check.due("tell what he does not know", x.tell(1), Check.NOT);
@@ -74,7 +72,7 @@ public final class DeedsTest {
     }
 
     private static void tellAgainstTheLead() {
-        TollDelay x = Check.built(RING);
+        TollDelay x = Check.built(Check.RING);
         x.learn(1);
         x.learn(2);
         x.anew();
@@ -144,7 +142,7 @@ public final class DeedsTest {
     }
 
     private static void learns() {
-        TollDelay x = Check.built(RING);
+        TollDelay x = Check.built(Check.RING);
         Check.due("learn what he knows", x.learn(0), Check.NOT);
         Check.due("learn", x.learn(2), 2);
         Check.due("known", x.told(8), 5);
@@ -186,7 +184,7 @@ public final class DeedsTest {
     }
 
     private static void evenings() {
-        TollDelay x = Check.built(RING);
+        TollDelay x = Check.built(Check.RING);
         x.minute(20);
         x.seat(0);
         x.tell(0);
@@ -199,7 +197,11 @@ public final class DeedsTest {
         Check.due("nothing told", x.told(10), 0);
         Check.due("the clock goes on", x.told(5), 47);
         Check.due("nobody sat", x.told(16), Check.NONE);
+        x.seat(4);
+        x.rise();
         Check.due("again", x.anew(), 2);
+        Check.due("who passed waits again", x.told(12), 31);
+        Check.due("and did not pass", x.told(13), 0);
         Check.due("evenings", x.told(6), 2);
         Check.due("no bridge", new TollDelay().anew(), Check.NOT);
         x.seat(3);
@@ -280,7 +282,7 @@ public final class DeedsTest {
     }
 
     private static void undone() {
-        TollDelay x = Check.built(RING);
+        TollDelay x = Check.built(Check.RING);
         String[] seen = new String[9];
         int deeds = 0;
         seen[deeds++] = Check.seen(x);
@@ -335,7 +337,7 @@ public final class DeedsTest {
     }
 
     private static void undoneAtMost() {
-        TollDelay x = Check.built(RING);
+        TollDelay x = Check.built(Check.RING);
         for (int i = 1; i <= 45; i++) {
             x.minute(1);
             Check.due("kept", x.told(20), Math.min(i, 30));
@@ -358,7 +360,7 @@ public final class DeedsTest {
     }
 
     private static void refusedChangesNothing() {
-        TollDelay x = Check.built(RING);
+        TollDelay x = Check.built(Check.RING);
         x.seat(1);
         x.tell(0);
         String before = Check.seen(x);
@@ -383,5 +385,42 @@ public final class DeedsTest {
         x.feed(256);
         Check.same("refused calls", Check.seen(x), before);
         Check.due("the seed", x.seed(0), 0);
+    }
+
+    /** The greatest counts lie beyond the 512 calls that are promised; this class goes on as before, so they can be seen. */
+    private static void farOn() {
+        TollDelay x = Check.built("k1 9;m60 3;m60 3;t3 0 3;");
+        for (int i = 0; i < 15000; i++) {
+            x.minute(60);
+        }
+        Check.due("the clock", x.told(5), 900000);
+        Check.due("not yet full", x.drift(1), 900001);
+        Check.due("minute full", x.minute(1), Check.FULL);
+        Check.due("drift full", x.drift(1), Check.FULL);
+        Check.due("outside ahead of full", x.minute(0), Check.OUTSIDE);
+        Check.due("undone", x.undo(1), 900000);
+        Check.due("minute to it", x.minute(1), 900001);
+        for (int i = 0; i < 8999; i++) {
+            x.anew();
+        }
+        Check.due("the last evening", x.anew(), 9000);
+        Check.due("anew full", x.anew(), Check.FULL);
+        TollDelay rich = Check.built("k1 9;m60 3;m60 3;t3 0 3;");
+        rich.learn(1);
+        for (int i = 0; i < 793; i++) {
+            rich.anew();
+            rich.seat(0);
+            rich.tell(0);
+            rich.tell(1);
+            rich.rise();
+        }
+        // each time two stays of 70, so 1260 pence
+        Check.due("paid", rich.told(7), 999180);
+        rich.anew();
+        rich.seat(0);
+        rich.tell(0);
+        rich.tell(1);
+        Check.due("what can still be paid", rich.rise(), 819);
+        Check.due("paid at most", rich.told(7), 999999);
     }
 }

@@ -1,8 +1,5 @@
 /** Promises 20 to 28: stayed, couldBe, ask, write, judge, tear, seed, keep, goBack. */
 public final class StayedTest {
-    /** A ring 0 -> 1 -> 2 -> 0, and one traveller of each kind. */
-    private static final String RING = "k10 2;m30 2;m20 4;m45 1;t0 3 7;t1 0 1;t2 2 6;t3 9 6;t4 0 7;";
-
     public static void main(String[] args) {
         stayed();
         couldBe();
@@ -16,7 +13,7 @@ public final class StayedTest {
     }
 
     private static void stayed() {
-        TollDelay x = Check.built(RING);
+        TollDelay x = Check.built(Check.RING);
         Check.due("stayed(0, -1)", x.stayed(0, -1), Check.OUTSIDE);
         Check.due("stayed(0, 101)", x.stayed(0, 101), Check.OUTSIDE);
         for (int wild : Check.WILD) {
@@ -36,7 +33,7 @@ public final class StayedTest {
     }
 
     private static void couldBe() {
-        TollDelay x = Check.built(RING);
+        TollDelay x = Check.built(Check.RING);
         Check.due("all, known or not", x.couldBe(), 7);
         x.stayed(1, 0);
         Check.due("what 1 can leave", x.couldBe(), 6);
@@ -49,12 +46,16 @@ public final class StayedTest {
     }
 
     private static void asks() {
-        TollDelay x = Check.built(RING);
+        TollDelay x = Check.built(Check.RING);
         Check.due("0 parts all", x.ask(), 0);
         x.stayed(2, 20);
         Check.due("one is left", x.ask(), Check.NONE);
         x.stayed(2, 21);
         Check.due("none is left", x.ask(), Check.NONE);
+        x.tear();
+        x.stayed(1, 30);
+        Check.due("0 is left", x.couldBe(), 1);
+        Check.due("nobody to ask about 0", x.ask(), Check.NONE);
         TollDelay parts = Check.built("k1 1;m1 0;m2 0;m3 0;m4 0;t4 0 15;t1 0 1;t1 0 6;t1 0 12;");
         // greatest parts: 4, then 3, then 2 and 2
         Check.due("the least of the like best", parts.ask(), 2);
@@ -72,7 +73,7 @@ public final class StayedTest {
     }
 
     private static void books() {
-        TollDelay x = Check.built(RING);
+        TollDelay x = Check.built(Check.RING);
         Check.due("write(0, -1)", x.write(0, -1), Check.OUTSIDE);
         Check.due("write(0, 10000)", x.write(0, 10000), Check.OUTSIDE);
         for (int wild : Check.WILD) {
@@ -90,6 +91,9 @@ public final class StayedTest {
         Check.due("nobody sat so long", x.judge(), 2);
         x.anew();
         Check.due("a new evening", x.judge(), 1);
+        x.seat(1);
+        x.tell(0);
+        Check.due("now the first is wrong", x.judge(), 0);
         for (int i = 4; i <= 20; i++) {
             Check.due("more", x.write(3, 0), i);
         }
@@ -99,7 +103,7 @@ public final class StayedTest {
     }
 
     private static void torn() {
-        TollDelay x = Check.built(RING);
+        TollDelay x = Check.built(Check.RING);
         Check.due("nothing to tear", x.tear(), 0);
         x.stayed(0, 1);
         x.stayed(0, 2);
@@ -127,7 +131,7 @@ public final class StayedTest {
     }
 
     private static void images() {
-        TollDelay x = Check.built(RING);
+        TollDelay x = Check.built(Check.RING);
         for (int wild : Check.WILD) {
             Check.due("keep(" + wild + ")", x.keep(wild), Check.UNKNOWN);
             Check.due("goBack(" + wild + ")", x.goBack(wild), Check.UNKNOWN);

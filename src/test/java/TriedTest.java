@@ -1,8 +1,5 @@
 /** Promises 16 to 19: stay, talk, queue, dry. */
 public final class TriedTest {
-    /** A ring 0 -> 1 -> 2 -> 0, and one traveller of each kind. */
-    private static final String RING = "k10 2;m30 2;m20 4;m45 1;t0 3 7;t1 0 1;t2 2 6;t3 9 6;t4 0 7;";
-
     public static void main(String[] args) {
         stays();
         talks();
@@ -15,7 +12,7 @@ public final class TriedTest {
     }
 
     private static void stays() {
-        TollDelay x = Check.built(RING);
+        TollDelay x = Check.built(Check.RING);
         int[][] due = {{27, 17, 42}, {30, 0, 0}, {0, 8, 20}, {0, 25, 50}, {0, 0, 0}};
         for (int t = 0; t < due.length; t++) {
             for (int m = 0; m < 3; m++) {
@@ -49,7 +46,7 @@ public final class TriedTest {
     }
 
     private static void talks() {
-        TollDelay x = Check.built(RING);
+        TollDelay x = Check.built(Check.RING);
         talk(x, 0, 27, 0, 1, 4);
         talk(x, 1, 30, 0, 1, 6);
         talk(x, 2, 0, Check.NONE, 0, 0);
@@ -92,6 +89,9 @@ public final class TriedTest {
         like.learn(1);
         talk(like, 0, 10, 0, 2, 10);
         talk(like, 1, 0, Check.NONE, 0, 0);
+        TollDelay one = Check.built("k1 3;m9 0;m8 0;t0 9 2;");
+        one.learn(1);
+        talk(one, 0, 1, 1, 1, 3);
         TollDelay all = Check.built("k60 9;m60 255;m60 255;m60 255;m60 255;m60 255;m60 255;m60 255;m60 255;t3 0 255;");
         for (int m = 1; m < 8; m++) {
             talk(all, 0, 100 * m, 0, m, 100 * m / 60 * 9);
@@ -101,7 +101,7 @@ public final class TriedTest {
     }
 
     private static void queues() {
-        TollDelay x = Check.built(RING);
+        TollDelay x = Check.built(Check.RING);
         Check.due("all orders are alike", x.queue(0), 10);
         Check.due("the least number", x.queue(1), 12345);
         x.learn(2);
@@ -139,6 +139,11 @@ public final class TriedTest {
         // patience 60 50 40 30 20 15: once the first sat, each of the others has just his minutes left
         Check.due("six", six.queue(0), 60);
         Check.due("the sixth is pressed", six.queue(1), 165432);
+        TollDelay last = Check.built("k5 1;m5 0;t1 4 1;t1 5 1;t1 6 1;t1 7 1;t1 8 1;t1 9 1;");
+        last.minute(15);
+        // patience 25 20 15 10 5 0: the last of all orders is the only one that holds all
+        Check.due("the greatest number", last.queue(1), 654321);
+        Check.due("it holds all", last.queue(0), 6);
     }
 
     private static void dryWeeks() {
@@ -159,7 +164,7 @@ public final class TriedTest {
     }
 
     private static void triedChangesNothing() {
-        TollDelay x = Check.built(RING);
+        TollDelay x = Check.built(Check.RING);
         x.learn(1);
         x.anew();
         String before = Check.seen(x);
