@@ -834,30 +834,24 @@ public final class TollDelay {
             return pay;
         }
 
-        /** The keeper knows the least new matter of a set from now on. */
+        /** The keeper knows the least new matter of a set from now on: x & -x is the least bit of x, and 0 of 0. */
         private void takeUp(int set) {
-            int m = leastOf(set & ~known);
-            if (m != NONE) {
-                known |= 1 << m;
-            }
+            int fresh = set & ~known;
+            known |= fresh & -fresh;
         }
 
+        /** Who turns back waits no more: his minutes stand still at the first that was too many. */
         void passMinutes(Bridge bridge, int n) {
             clock += n;
             for (int t = 0; t < bridge.travellers; t++) {
                 if (holds(waits, t)) {
-                    waitLonger(bridge, t, n);
+                    int tooLong = bridge.mostWaiting(t) + 1;
+                    waited[t] = Math.min(waited[t] + n, tooLong);
+                    if (waited[t] >= tooLong) {
+                        waits &= ~(1 << t);
+                        turned |= 1 << t;
+                    }
                 }
-            }
-        }
-
-        /** Who turns back waits no more: his minutes stand still at the first that was too many. */
-        private void waitLonger(Bridge bridge, int t, int n) {
-            int tooLong = bridge.mostWaiting(t) + 1;
-            waited[t] = Math.min(waited[t] + n, tooLong);
-            if (waited[t] >= tooLong) {
-                waits &= ~(1 << t);
-                turned |= 1 << t;
             }
         }
 

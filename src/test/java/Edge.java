@@ -202,7 +202,8 @@ final class Edge {
         return look;
     }
 
-    private static int call(TollDelay x, String words) {
+    /** One call, told in words. */
+    static int call(TollDelay x, String words) {
         String[] w = words.split(" ");
         int a = w.length > 1 ? Integer.parseInt(w[1]) : 0;
         int b = w.length > 2 ? Integer.parseInt(w[2]) : 0;

@@ -5,14 +5,21 @@ import java.lang.reflect.Method;
 import java.lang.reflect.Modifier;
 import java.nio.file.Files;
 import java.nio.file.Path;
+import java.util.List;
 import java.util.TreeSet;
+import java.util.regex.Matcher;
+import java.util.regex.Pattern;
 
 /** The public face, and those rules of LANGUAGE.md that can be seen without understanding the code. */
 public final class FaceTest {
-    private static final String[] METHODS = {"feed 1", "bridge 0", "fault 0", "told 1", "matter 2", "traveller 2", "seat 1", "tell 1",
+    static final String[] METHODS = {"feed 1", "bridge 0", "fault 0", "told 1", "matter 2", "traveller 2", "seat 1", "tell 1",
         "rise 0", "learn 1", "minute 1", "anew 0", "drift 1", "undo 1", "stay 2", "talk 2", "queue 1", "dry 2", "stayed 2",
         "couldBe 0", "ask 0", "write 2", "judge 0", "tear 0", "seed 1", "keep 1", "goBack 1"};
     private static final String[] CONSTANTS = {"NONE", "UNKNOWN", "OUTSIDE", "NOT", "FULL"};
+    /** Rules 3 and 4: the types that fields may have beside the class's own, and the library's functions that are called. */
+    private static final String TYPES = "int long boolean int[] long[]";
+    private static final String LIBRARY = "Math.max Math.min Integer.bitCount";
+    private static final int MOST_CLASSES = 12, MOST_FIELDS = 20, MOST_PARAMETERS = 7, MOST_LINES = 60;
     private static final String[] FORBIDDEN = {"throw", "throws", "try", "catch", "finally", "synchronized", "assert", "import",
         "package", "new Object", "System", "Thread", "Exact", "NaN", "hashCode", "toString", "equals", "protected", "->", "::"};
 
@@ -20,8 +27,12 @@ public final class FaceTest {
         constants();
         methods();
         fields();
+        classesInside();
         if (args.length > 0) {
-            source(Files.readString(Path.of(args[0])));
+            String text = Files.readString(Path.of(args[0]));
+            source(text);
+            library(withoutComments(text));
+            lengths(text);
         }
         Check.end("FaceTest");
     }
@@ -85,11 +96,68 @@ public final class FaceTest {
         Check.same("the constants", found.toString(), due.toString());
     }
 
+    /** Rules 2, 3, 5 and 11, of the class and of those inside it. */
+    private static void classesInside() {
+        Class<?>[] inside = TollDelay.class.getDeclaredClasses();
+        Check.due("classes", Math.max(inside.length + 1, MOST_CLASSES), MOST_CLASSES);
+        rulesOf(TollDelay.class);
+        for (Class<?> one : inside) {
+            rulesOf(one);
+            Check.due("classes inside " + one.getName(), one.getDeclaredClasses().length, 0);
+        }
+    }
+
+    private static void rulesOf(Class<?> one) {
+        int own = 0;
+        for (Field field : one.getDeclaredFields()) {
+            String name = one.getName() + "." + field.getName();
+            boolean isStatic = Modifier.isStatic(field.getModifiers());
+            own += isStatic ? 0 : 1;
+            Check.due(name + " is static, so it is final", isStatic && !Modifier.isFinal(field.getModifiers()) ? 1 : 0, 0);
+            Check.due(name + " has a type that may be", allowed(field.getType(), isStatic) ? 1 : 0, 1);
+        }
+        Check.due("fields of " + one.getName(), Math.max(own, MOST_FIELDS), MOST_FIELDS);
+        for (Method method : one.getDeclaredMethods()) {
+            int many = method.getParameterCount();
+            Check.due("parameters of " + method.getName(), Math.max(many, MOST_PARAMETERS), MOST_PARAMETERS);
+        }
+    }
+
+    private static boolean allowed(Class<?> type, boolean isStatic) {
+        boolean number = List.of(TYPES.split(" ")).contains(type.getSimpleName());
+        return number || !isStatic && type.getName().contains("TollDelay$");
+    }
+
+    private static String withoutComments(String text) {
+        return text.replaceAll("(?s)/\\*.*?\\*/", " ").replaceAll("//[^\n]*", " ");
+    }
+
+    /** Every 'Name.' that is no class of the file's own must be one of the library's few. */
+    private static void library(String code) {
+        Matcher word = Pattern.compile("\\b([A-Z][A-Za-z]*[a-z][A-Za-z]*)\\.(\\w+)").matcher(code);
+        while (word.find()) {
+            boolean own = code.contains("class " + word.group(1) + " {");
+            Check.due(word.group() + " may be called", own || List.of(LIBRARY.split(" ")).contains(word.group()) ? 1 : 0, 1);
+        }
+    }
+
+    /** Rule 11: a method begins at four or eight blanks and ends at the brace below its first letter. */
+    private static void lengths(String text) {
+        Matcher method = Pattern.compile("(?m)^( {4}| {8})(?! )[^=;\n]*\\) \\{\n(.*\n)*?\\1\\}").matcher(text);
+        int found = 0;
+        while (method.find()) {
+            int lines = method.group().split("\n").length;
+            Check.due("lines of " + method.group().split("\n")[0].trim(), Math.max(lines, MOST_LINES), MOST_LINES);
+            found++;
+        }
+        Check.due("methods are found", found > METHODS.length ? 1 : 0, 1);
+    }
+
     private static void source(String text) {
-        String code = text.replaceAll("(?s)/\\*.*?\\*/", " ").replaceAll("//[^\n]*", " ");
+        String code = withoutComments(text);
         for (String word : FORBIDDEN) {
             String edge = Character.isLetter(word.charAt(0)) ? "\\b" : "";
-            boolean there = java.util.regex.Pattern.compile(edge + java.util.regex.Pattern.quote(word) + edge).matcher(code).find();
+            boolean there = Pattern.compile(edge + Pattern.quote(word) + edge).matcher(code).find();
             Check.due("the source has '" + word + "'", there ? 1 : 0, 0);
         }
         for (int i = 0; i < text.length(); i++) {
